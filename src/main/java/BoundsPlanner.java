@@ -279,7 +279,7 @@ public final class BoundsPlanner {
             return true;
         }
 
-        /** How many bytes the character there has; 0 when it is not right or does not end before to. */
+        /** How many bytes the character there has; 0 when it is not right or goes beyond to. */
         private static int lengthOfCharacter(byte[] row, int place, int to) {
             int head = at(row, place);
             if (head < 128) {
@@ -588,7 +588,7 @@ public final class BoundsPlanner {
             return from;
         }
 
-        static int compare(Node a, Node b, int depth) {
+        private static int compare(Node a, Node b, int depth) {
             if (a.ofClass != b.ofClass) {
                 return Integer.compare(a.ofClass, b.ofClass);
             }
@@ -645,7 +645,7 @@ public final class BoundsPlanner {
             this.counted = 0;
         }
 
-        int faultOfFilter(Node filter, int depth) {
+        private int faultOfFilter(Node filter, int depth) {
             int fault = NO_FAULT;
             for (Node e = filter.first; e != null && fault == NO_FAULT; e = e.next) {
                 fault = e.word == Node.PLAIN ? faultOfPath(e, depth) : faultOfJoin(e, depth);
@@ -928,7 +928,7 @@ public final class BoundsPlanner {
             this.clauses = clauses;
         }
 
-        static void gather(Node filter, ArrayList<Clause> clauses, int depth) {
+        private static void gather(Node filter, ArrayList<Clause> clauses, int depth) {
             for (Node e = filter.first; e != null; e = e.next) {
                 if (e.word == Node.PLAIN) {
                     addClauses(e, clauses);

@@ -6,6 +6,7 @@ public final class EndTest {
         elem();
         manyKeyed();
         order();
+        deep();
         noneSuch();
         Checks.finish("EndTest");
     }
@@ -126,6 +127,21 @@ public final class EndTest {
         Told.due("{a: {$in: [{b: [1, {c: 2L}]}, {b: [1L, {c: 2}]}]}}", 0, "4[a/$in/0,a/$in/0]");
         Told.due("{a: {$in: [{b: [1, {c: 2L}]}, {b: [1L, {c: 1}]}]}}", 0,
                 "4[a/$in/1,a/$in/1] 4[a/$in/0,a/$in/0]");
+    }
+
+    /** Values that differ as deep as a document goes, and conditions that lie there. */
+    private static void deep() {
+        String open = "{x: ".repeat(12);
+        String close = "}".repeat(12);
+        String pair = open + "{y: 1}" + close + ", " + open + "{y: 0}" + close;
+        Told.due("{a: {$in: [" + pair + "]}}", 0, "4[a/$in/1,a/$in/1] 4[a/$in/0,a/$in/0]");
+        String same = open + "{y: 1}" + close + ", " + open + "{y: 1L}" + close;
+        Told.due("{a: {$in: [" + same + "]}}", 0, "4[a/$in/0,a/$in/0]");
+        String rows = "{x: " + "[".repeat(11) + "[2]" + "]".repeat(11) + "}, {x: "
+                + "[".repeat(11) + "[1]" + "]".repeat(11) + "}";
+        Told.due("{a: {$in: [" + rows + "]}}", 0, "4[a/$in/1,a/$in/1] 4[a/$in/0,a/$in/0]");
+        String and = "$and/0/".repeat(7);
+        Told.due("{$and: [".repeat(7) + "{a: {$gt: 1}}" + "]}".repeat(7), 0, "2(" + and + "a/$gt,+)");
     }
 
     private static void noneSuch() {

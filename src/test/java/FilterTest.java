@@ -9,13 +9,12 @@ public final class FilterTest {
         fault4();
         fault5();
         firstByPlace();
+        deep();
         Checks.finish("FilterTest");
     }
 
     private static void fault(String source, int want) {
-        Val document = Val.of(source);
-        Checks.due("filter " + source, Tape.filter(new BoundsPlanner(), document.bytes()), want);
-        Checks.due("oracle " + source, Oracle.faultOf(document), want);
+        fault(source, want, want);
     }
 
     private static void answersAndState() {
@@ -167,5 +166,24 @@ public final class FilterTest {
         fault("{$or: [{a: 1}, {b.: 1}], $and: 1}", 3);
         fault("{$or: {'0': {$x: 1}}}", 2);
         fault("{a: {$in: {$x: 1}}}", 4);
+    }
+
+    /** The faults and right ones that lie as deep as a document goes. */
+    private static void deep() {
+        for (String last : new String[] {"{$gt: 1}", "{$x: 1}"}) {
+            int want = last.equals("{$gt: 1}") ? 0 : 1;
+            fault("{a: " + "{$not: ".repeat(14) + last + "}".repeat(15), want);
+            fault("{a: " + "{$elem: ".repeat(14) + last + "}".repeat(15), want);
+            fault("{a: " + "{$elem: {b: ".repeat(7) + last + "}}".repeat(7) + "}", want);
+            fault("{$and: [".repeat(7) + "{a: " + last + "}" + "]}".repeat(7), want);
+            fault("{$or: [{$nor: [".repeat(3) + "{a: {$not: " + last + "}}" + "]}]}".repeat(3), want);
+        }
+        fault("{a: " + "{$not: ".repeat(15) + "{$gt: 1}" + "}".repeat(16), 0, -1);
+    }
+
+    private static void fault(String source, int want, int answered) {
+        Val document = Val.of(source);
+        Checks.due("filter " + source, Tape.filter(new BoundsPlanner(), document.bytes()), answered);
+        Checks.due("oracle " + source, Oracle.faultOf(document), want);
     }
 }

@@ -39,6 +39,10 @@ public final class InsideTest {
         inside("{b: 1}", "5", 1);
         inside("{}", "[]", 1);
         inside("{a: {$lt: true}}", "false", 1);
+        String deep = "{x: ".repeat(14) + "{y: 1}" + "}".repeat(14);
+        inside("{a: " + deep + "}", deep, 1);
+        inside("{a: " + deep + "}", deep.replace("1", "1L"), 1);
+        inside("{a: " + deep + "}", deep.replace("1", "2"), 0);
         Checks.finish("InsideTest");
     }
 
