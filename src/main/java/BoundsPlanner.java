@@ -87,9 +87,9 @@ public final class BoundsPlanner {
         int fault = checker.faultOfFilter(whole, 1);
         if (fault == 0) {
             Order.number(reader.nodes);
-            ArrayList<Clause> clauses = new ArrayList<>();
-            Filter.gather(whole, clauses, 1);
-            planned = new Filter(clauses);
+            Filter filter = new Filter();
+            filter.gather(whole, 1);
+            planned = filter;
         }
         return fault;
     }
@@ -738,31 +738,28 @@ public final class BoundsPlanner {
         final int ofClass;
         final Node node;
         final boolean in;
-        private final int position;
+        /** Where an interval begins that has this as its low end: just before its value, if IN. */
+        final int asLow;
+        /** Where an interval stops that has this as its high end: just behind its value, if IN. */
+        final int asHigh;
 
         End(Node node, boolean in) {
+            int position = node.ofClass * CLASS_WIDTH + 1 + node.order;
             this.ofClass = node.ofClass;
             this.node = node;
             this.in = in;
-            this.position = node.ofClass * CLASS_WIDTH + 1 + node.order;
+            this.asLow = 2 * position + (in ? 0 : 1);
+            this.asHigh = 2 * position + (in ? 1 : 0);
         }
 
         /** The end of a class, or its beginning. */
         End(int ofClass, boolean high) {
+            int position = ofClass * CLASS_WIDTH + (high ? CLASS_WIDTH - 1 : 0);
             this.ofClass = ofClass;
             this.node = null;
             this.in = false;
-            this.position = ofClass * CLASS_WIDTH + (high ? CLASS_WIDTH - 1 : 0);
-        }
-
-        /** Where an interval begins that has this as its low end: just before its value, if IN. */
-        int cutAsLow() {
-            return 2 * position + (in ? 0 : 1);
-        }
-
-        /** Where an interval stops that has this as its high end: just behind its value, if IN. */
-        int cutAsHigh() {
-            return 2 * position + (in ? 1 : 0);
+            this.asLow = 2 * position + 1;
+            this.asHigh = 2 * position;
         }
     }
 
@@ -774,6 +771,23 @@ public final class BoundsPlanner {
         Interval(End low, End high) {
             this.low = low;
             this.high = high;
+        }
+
+        /**
+         * What is in both, null if nothing is; ends that are alike are those of this one. Most of
+         * the intervals that meet are points, which stay as they are, so few new ones are made.
+         */
+        Interval meet(Interval later) {
+            End metLow = later.low.asLow > low.asLow ? later.low : low;
+            End metHigh = later.high.asHigh < high.asHigh ? later.high : high;
+            if (metLow.asLow >= metHigh.asHigh) {
+                return null;
+            }
+            if (metLow == low && metHigh == high) {
+                return this;
+            }
+            boolean isLater = metLow == later.low && metHigh == later.high;
+            return isLater ? later : new Interval(metLow, metHigh);
         }
 
         boolean isPoint() {
@@ -793,15 +807,17 @@ public final class BoundsPlanner {
 
     /** BOUNDS as lists of intervals, the least first; null is what does not bound. */
     private static final class Bounds {
-        static ArrayList<Interval> ofElem(Node elem) {
+        static ArrayList<Interval> ofElem(Node elem, ArrayList<Interval> spare) {
             if (!elem.isConditionsOfItem()) {
                 return null;
             }
             ArrayList<Interval> all = null;
             for (Node c = elem.first; c != null; c = c.next) {
                 ArrayList<Interval> some = ofCondition(c, c.word);
-                if (some != null) {
-                    all = all == null ? some : meet(all, some);
+                if (all == null) {
+                    all = some;
+                } else if (some != null) {
+                    meet(all, some, spare);
                 }
             }
             if (all != null) {
@@ -851,10 +867,10 @@ public final class BoundsPlanner {
                 }
                 End end = new End(item, true);
                 int place = bounds.size();
-                while (place > 0 && bounds.get(place - 1).low.cutAsLow() > end.cutAsLow()) {
+                while (place > 0 && bounds.get(place - 1).low.asLow > end.asLow) {
                     place--;
                 }
-                if (place == 0 || bounds.get(place - 1).low.cutAsLow() < end.cutAsLow()) {
+                if (place == 0 || bounds.get(place - 1).low.asLow < end.asLow) {
                     bounds.add(place, new Interval(end, end));
                 }
             }
@@ -870,21 +886,29 @@ public final class BoundsPlanner {
                     new End(Node.CLASS_ROWS, false), new End(Node.CLASS_ROWS, true)));
         }
 
-        /** What is in both; the earlier one gives the ends that are alike. */
-        static ArrayList<Interval> meet(ArrayList<Interval> earlier, ArrayList<Interval> later) {
-            ArrayList<Interval> met = new ArrayList<>();
-            for (int i = 0; i < earlier.size(); i++) {
-                Interval a = earlier.get(i);
+        /**
+         * Leaves in all what is in the later ones, too. The lists are used again, as many bounds
+         * may meet in one filter; what is in the spare one does not matter.
+         */
+        static void meet(ArrayList<Interval> all, ArrayList<Interval> later,
+                ArrayList<Interval> spare) {
+            copy(all, spare);
+            all.clear();
+            for (int i = 0; i < spare.size(); i++) {
                 for (int j = 0; j < later.size(); j++) {
-                    Interval b = later.get(j);
-                    End low = b.low.cutAsLow() > a.low.cutAsLow() ? b.low : a.low;
-                    End high = b.high.cutAsHigh() < a.high.cutAsHigh() ? b.high : a.high;
-                    if (low.cutAsLow() < high.cutAsHigh()) {
-                        met.add(new Interval(low, high));
+                    Interval met = spare.get(i).meet(later.get(j));
+                    if (met != null) {
+                        all.add(met);
                     }
                 }
             }
-            return met;
+        }
+
+        static void copy(ArrayList<Interval> bounds, ArrayList<Interval> into) {
+            into.clear();
+            for (int i = 0; i < bounds.size(); i++) {
+                into.add(bounds.get(i));
+            }
         }
 
         static boolean arePoints(ArrayList<Interval> bounds) {
@@ -906,78 +930,91 @@ public final class BoundsPlanner {
         }
     }
 
-    /** A condition that has bounds, with the element of the filter whose name is its path. */
+    /** What a filter says of one path by conditions that have bounds. */
     private static final class Clause {
+        /** An element of the filter whose name is the path. */
         final Node element;
-        final boolean exact;
-        final ArrayList<Interval> bounds;
+        /** What is in the bounds of all conditions. */
+        final ArrayList<Interval> all = new ArrayList<>();
+        /** The bounds of the one condition that counts when the path is MANY-KEYED. */
+        ArrayList<Interval> one;
+        private boolean exact;
 
-        Clause(Node element, boolean exact, ArrayList<Interval> bounds) {
+        Clause(Node element) {
             this.element = element;
-            this.exact = exact;
-            this.bounds = bounds;
+        }
+
+        /** The next condition; exact is one by $eq or $in. */
+        void add(ArrayList<Interval> bounds, boolean isExact, ArrayList<Interval> spare) {
+            if (one == null) {
+                Bounds.copy(bounds, all);
+            } else {
+                Bounds.meet(all, bounds, spare);
+            }
+            if (one == null || isExact && !exact) {
+                one = bounds;
+                exact = isExact;
+            }
         }
     }
 
-    /** A filter without fault, as far as it bounds. */
+    /**
+     * A filter without fault, as far as it bounds. The bounds of all its paths are made once, when
+     * it is read, so that questions and new indexes make nothing more.
+     */
     private static final class Filter {
-        /** In the order of their places. */
-        private final ArrayList<Clause> clauses;
+        private final ArrayList<Clause> clauses = new ArrayList<>();
+        private final ArrayList<Interval> spare = new ArrayList<>();
 
-        Filter(ArrayList<Clause> clauses) {
-            this.clauses = clauses;
-        }
-
-        private static void gather(Node filter, ArrayList<Clause> clauses, int depth) {
+        private void gather(Node filter, int depth) {
             for (Node e = filter.first; e != null; e = e.next) {
-                if (e.word == Node.PLAIN) {
-                    addClauses(e, clauses);
-                } else if (e.word == Node.AND && depth <= Reader.MOST_DEEP) {
+                if (e.word == Node.AND && depth <= Reader.MOST_DEEP) {
                     for (Node item = e.first; item != null; item = item.next) {
-                        gather(item, clauses, depth + 1);
+                        gather(item, depth + 1);
                     }
+                } else if (e.word == Node.PLAIN && e.isConditions()) {
+                    for (Node c = e.first; c != null; c = c.next) {
+                        addCondition(e, c, c.word);
+                    }
+                } else if (e.word == Node.PLAIN) {
+                    addCondition(e, e, Node.EQ);
                 }
             }
         }
 
-        private static void addClauses(Node element, ArrayList<Clause> clauses) {
-            if (!element.isConditions()) {
-                addClause(clauses, element, true, Bounds.ofCondition(element, Node.EQ));
+        private void addCondition(Node element, Node condition, int word) {
+            ArrayList<Interval> bounds = word == Node.ELEM
+                    ? Bounds.ofElem(condition, spare) : Bounds.ofCondition(condition, word);
+            if (bounds == null) {
                 return;
             }
-            for (Node c = element.first; c != null; c = c.next) {
-                boolean exact = c.word == Node.EQ || c.word == Node.IN;
-                addClause(clauses, element, exact, c.word == Node.ELEM
-                        ? Bounds.ofElem(c) : Bounds.ofCondition(c, c.word));
+            Clause clause = clauseOf(element.row, element.nameFrom(), element.nameEnd);
+            if (clause == null) {
+                clause = new Clause(element);
+                clauses.add(clause);
             }
+            clause.add(bounds, word == Node.EQ || word == Node.IN, spare);
         }
 
-        private static void addClause(ArrayList<Clause> clauses, Node element, boolean exact,
-                ArrayList<Interval> bounds) {
-            if (bounds != null) {
-                clauses.add(new Clause(element, exact, bounds));
+        /** What is said of the path that these bytes are; null when nothing bounds it. */
+        private Clause clauseOf(byte[] row, int from, int to) {
+            for (int i = 0; i < clauses.size(); i++) {
+                Node element = clauses.get(i).element;
+                if (Bytes.compare(element.row, element.nameFrom(), element.nameEnd,
+                        row, from, to) == 0) {
+                    return clauses.get(i);
+                }
             }
+            return null;
         }
 
         /** The bounds of a path; null when it is FREE. */
         ArrayList<Interval> boundsOf(byte[] path, boolean manyKeyed) {
-            ArrayList<Interval> bounds = null;
-            boolean exact = false;
-            for (int i = 0; i < clauses.size(); i++) {
-                Clause clause = clauses.get(i);
-                Node element = clause.element;
-                if (Bytes.compare(element.row, element.nameFrom(), element.nameEnd,
-                        path, 0, path.length) != 0) {
-                    continue;
-                }
-                if (bounds == null || manyKeyed && clause.exact && !exact) {
-                    bounds = clause.bounds;
-                    exact = clause.exact;
-                } else if (!manyKeyed) {
-                    bounds = Bounds.meet(bounds, clause.bounds);
-                }
+            Clause clause = clauseOf(path, 0, path.length);
+            if (clause == null) {
+                return null;
             }
-            return bounds;
+            return manyKeyed ? clause.one : clause.all;
         }
     }
 

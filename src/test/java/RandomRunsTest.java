@@ -28,7 +28,7 @@ public final class RandomRunsTest {
 
     private void run(int[] faults, int seed) {
         BoundsPlanner x = new BoundsPlanner();
-        Val filter = filter(3);
+        Val filter = seed % 10 == 9 ? longFilter() : filter(3);
         byte[] bytes = filter.bytes();
         if (bytes.length > 2000) {
             return;
@@ -157,6 +157,40 @@ public final class RandomRunsTest {
             }
         }
         return filter;
+    }
+
+    /** Many conditions of the same two paths, so wide that intervals are left at the end. */
+    private Val longFilter() {
+        Val row = new Val(4);
+        for (int i = 2 + random.nextInt(15); i > 0; i--) {
+            Val conditions = new Val(3);
+            if (random.nextInt(3) == 0) {
+                conditions.with("$in", manyNumbers());
+            } else {
+                conditions.with(random.nextBoolean() ? "$gte" : "$gt", number(random.nextInt(4)));
+                conditions.with(random.nextBoolean() ? "$lte" : "$lt", number(16 + random.nextInt(4)));
+            }
+            if (random.nextInt(3) == 0) {
+                conditions = new Val(3).with("$elem", conditions);
+            }
+            row.item(new Val(3).with(PATHS[random.nextInt(4) == 0 ? 1 : 0], conditions));
+        }
+        return new Val(3).with("$and", row);
+    }
+
+    private Val number(int number) {
+        return random.nextBoolean() ? Val.whole(number) : Val.big(number);
+    }
+
+    private Val manyNumbers() {
+        Val row = new Val(4);
+        int first = random.nextInt(20);
+        for (int i = 0; i < 20; i++) {
+            if (random.nextInt(8) > 0) {
+                row.item(number((first + i) % 20));
+            }
+        }
+        return row;
     }
 
     private Val filters(int depth) {

@@ -13,7 +13,7 @@ final class Tape {
         }
     }
 
-    private static int number(byte[] b, int at) {
+    static int number(byte[] b, int at) {
         return (b[at] & 255) << 24 | (b[at + 1] & 255) << 16 | (b[at + 2] & 255) << 8 | b[at + 3] & 255;
     }
 
