@@ -1,43 +1,82 @@
-/** Promise 1: a new object has no indexes, no filter, no value, nothing on the tape. */
+/** Promise 1: a new object. */
 public final class NewObjectTest {
     public static void main(String[] args) {
-        BoundsPlanner x = new BoundsPlanner();
-        Checks.due("choose", x.choose(), -2);
-        for (int i = -1; i <= 8; i++) {
-            Checks.due("rank " + i, x.rank(i), -1);
-            Checks.due("ranges " + i, x.ranges(i), -1);
-            Checks.due("many " + i, x.many(i, 0), -2);
-            Checks.due("end " + i, x.end(i, 0, 0, true, 0), -2);
-            Checks.due("inside " + i, x.inside(i, 0), -1);
-            Checks.due("drop " + i, x.drop(i), false);
-        }
-        Checks.due("index from an empty tape", x.index(0, 1, 0, 0), -1);
-        Checks.due("filter from an empty tape", x.filter(1), -2);
-        Checks.due("value from an empty tape", x.value(1), -2);
-        Checks.due("first feed", x.feed(0, 0, 0, 0, 0), 20);
+        noIndexes();
+        noFilter();
+        noValue();
+        nothingOnTheTape();
         objectsAreApart();
-        noIndexAndNoValueBehindAFilter();
+        allCallsOfARun();
         Checks.finish("NewObjectTest");
     }
 
-    private static void objectsAreApart() {
-        BoundsPlanner x = new BoundsPlanner();
-        BoundsPlanner y = new BoundsPlanner();
-        Checks.due("filter", Tape.filter(x, "{a: 1}"), 0);
-        Checks.due("index", Tape.index(x, 0, "a", "", 0), 0);
-        Checks.due("choose of the one", x.choose(), 0);
-        Checks.due("choose of the other", y.choose(), -2);
-        Checks.due("drop of the other", y.drop(0), false);
-        Checks.due("tape of the other", y.feed(1, 2, 3, 4, 5), 20);
-        Checks.due("tape of the one", x.feed(1, 2, 3, 4, 5), 20);
+    private static void noIndexes() {
+        Checks.by("A new object: no indexes");
+        Planner x = new Planner();
+        Tape.filter(x, "{a: 1}");
+        Tape.value(x, "1");
+        for (int i = -1; i <= 8; i++) {
+            Checks.due("drop " + i, x.drop(i), false);
+            Checks.due("rank " + i, x.rank(i), -1);
+            Checks.due("ranges " + i, x.ranges(i), -1);
+            for (int w = 0; w < 2; w++) {
+                Checks.due("many " + i + ", " + w, x.many(i, w), -2);
+                Checks.due("end " + i + ", " + w, x.end(i, w, 0, true, 0), -2);
+                Checks.due("inside " + i + ", " + w, x.inside(i, w), -1);
+            }
+        }
+        Checks.due("choose", x.choose(), -1);
     }
 
-    private static void noIndexAndNoValueBehindAFilter() {
-        BoundsPlanner x = new BoundsPlanner();
-        Checks.due("filter", Tape.filter(x, "{a: 1}"), 0);
-        Checks.due("choose without indexes", x.choose(), -1);
-        Checks.due("rank without index", x.rank(0), -1);
-        Checks.due("index", Tape.index(x, 0, "b", "", 0), 0);
-        Checks.due("inside without value", x.inside(0, 0), -1);
+    private static void noFilter() {
+        Checks.by("A new object: no filter");
+        Planner x = new Planner();
+        Checks.due("choose at once", x.choose(), -2);
+        Tape.index(x, 0, "a", "b", 0);
+        Tape.value(x, "1");
+        Scene.hasNoFilter("a new object", x);
+    }
+
+    private static void noValue() {
+        Checks.by("A new object: no value");
+        Planner x = new Planner();
+        Tape.index(x, 0, "a", "b", 0);
+        Tape.filter(x, "{a: {$gte: null}}");
+        Checks.due("inside of a bounded path", x.inside(0, 0), -1);
+        Checks.due("inside of a FREE path", x.inside(0, 1), -1);
+    }
+
+    private static void nothingOnTheTape() {
+        Checks.by("A new object: nothing on the tape");
+        Planner x = new Planner();
+        Checks.due("index of one byte", x.index(0, 1, 0, 0), -1);
+        Checks.due("filter of one byte", x.filter(1), -2);
+        Checks.due("value of one byte", x.value(1), -2);
+        Checks.due("filter of none", x.filter(0), -1);
+        Checks.due("value of none", x.value(0), -1);
+        Checks.due("the first feed", x.feed(0, 0, 0, 0, 0), 20);
+    }
+
+    private static void objectsAreApart() {
+        Checks.by("A new object, beside one that is in use");
+        Planner x = Scene.made();
+        Planner y = new Planner();
+        Checks.due("choose of the new one", y.choose(), -2);
+        Checks.due("drop of the new one", y.drop(0), false);
+        Checks.due("feed of the new one", y.feed(1, 2, 3, 4, 5), 20);
+        Scene.hasAll("the calls of the other", x);
+    }
+
+    private static void allCallsOfARun() {
+        Checks.by("An object is used for at most 512 calls after it has been made");
+        Planner x = Scene.withoutTape();
+        while (x.callsLeft() > 20) {
+            Checks.due("inside", x.inside(0, 0), 1);
+        }
+        Scene.hasIndexesAndFilter("some 490 calls", x);
+        while (x.callsLeft() > 1) {
+            Checks.due("ranges", x.ranges(0), 2);
+        }
+        Checks.due("the 512th call", x.choose(), 0);
     }
 }

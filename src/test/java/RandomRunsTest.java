@@ -27,19 +27,19 @@ public final class RandomRunsTest {
     }
 
     private void run(int[] faults, int seed) {
-        BoundsPlanner x = new BoundsPlanner();
         Val filter = seed % 10 == 9 ? longFilter() : filter(3);
         byte[] bytes = filter.bytes();
         if (bytes.length > 2000) {
             return;
         }
+        Planner x = new Planner();
         String[][] paths = new String[8][];
         int[] how = new int[8];
         for (int i = 0; i < 8; i++) {
             if (random.nextInt(4) > 0) {
                 paths[i] = paths();
                 how[i] = random.nextInt(16) & (paths[i].length == 2 ? 15 : 5);
-                Tape.index(x, i, paths[i][0], paths[i].length == 2 ? paths[i][1] : "", how[i]);
+                index(x, i, paths[i], how[i]);
             }
         }
         Checks.due(seed + ": a document", Oracle.isDocument(bytes), true);
@@ -53,13 +53,17 @@ public final class RandomRunsTest {
         compareAll(x, filter, paths, how, seed);
     }
 
+    private static void index(Planner x, int i, String[] paths, int how) {
+        Tape.index(x, i, paths[0], paths.length == 2 ? paths[1] : "", how);
+    }
+
     private String[] paths() {
         String first = PATHS[random.nextInt(PATHS.length)];
         String second = PATHS[random.nextInt(PATHS.length)];
         return first.equals(second) ? new String[] {first} : new String[] {first, second};
     }
 
-    private void compareAll(BoundsPlanner x, Val filter, String[][] paths, int[] how, int seed) {
+    private void compareAll(Planner x, Val filter, String[][] paths, int[] how, int seed) {
         Val[] values = new Val[8];
         int best = -1;
         int bestRank = 0;
@@ -75,9 +79,9 @@ public final class RandomRunsTest {
             Oracle.Bounded first = Oracle.boundsOf(filter, paths[i][0], (how[i] & 4) != 0);
             Oracle.Bounded second = paths[i].length == 1 ? null
                     : Oracle.boundsOf(filter, paths[i][1], (how[i] & 8) != 0);
-            compareOne(x, i, 0, first, (how[i] & 1) != 0, seed);
+            compareOne(filter, paths[i], how[i], 0, first, seed);
             if (paths[i].length == 2) {
-                compareOne(x, i, 1, second, (how[i] & 2) != 0, seed);
+                compareOne(filter, paths[i], how[i], 1, second, seed);
             }
             int rank = Oracle.rankOf(first, second);
             int ranges = Oracle.rangesOf(first, second);
@@ -95,14 +99,18 @@ public final class RandomRunsTest {
         Checks.due(seed + ": choose", x.choose(), best);
     }
 
-    private static void compareOne(BoundsPlanner x, int i, int w, Oracle.Bounded due, boolean down,
-            int seed) {
-        Checks.due(seed + ": many", x.many(i, w), due == null ? -1 : due.spans().size());
+    /** By a planner of its own, as there may be many intervals. */
+    private static void compareOne(Val filter, String[] paths, int how, int w, Oracle.Bounded due, int seed) {
+        Planner x = new Planner();
+        Tape.filter(x, filter.bytes());
+        index(x, 3, paths, how);
+        boolean down = (how & (w == 0 ? 1 : 2)) != 0;
+        Checks.due(seed + ": many", x.many(3, w), due == null ? -1 : due.spans().size());
         for (int k = 0; due != null && k < due.spans().size(); k++) {
             Oracle.Span span = due.spans().get(down ? due.spans().size() - 1 - k : k);
             for (int what = 0; what < 4; what++) {
-                Checks.due(seed + ": low", x.end(i, w, k, false, what), span.low().tell(what));
-                Checks.due(seed + ": high", x.end(i, w, k, true, what), span.high().tell(what));
+                Checks.due(seed + ": low", x.end(3, w, k, false, what), span.low().tell(what));
+                Checks.due(seed + ": high", x.end(3, w, k, true, what), span.high().tell(what));
             }
         }
     }

@@ -12,6 +12,8 @@ final class Val {
     final int kind;
     long number;
     byte[] text = new byte[0];
+    /** The bytes of the value, when they are not to be made by its kind. */
+    private byte[] raw = null;
     final List<byte[]> names = new ArrayList<>();
     final List<Val> parts = new ArrayList<>();
     /** Where its kind stands in the outermost document; set by bytes(). */
@@ -19,6 +21,12 @@ final class Val {
 
     Val(int kind) {
         this.kind = kind;
+    }
+
+    static Val raw(int kind, byte[] bytes) {
+        Val v = new Val(kind);
+        v.raw = bytes;
+        return v;
     }
 
     static Val whole(int number) {
@@ -122,6 +130,9 @@ final class Val {
     }
 
     private byte[] content(int start) {
+        if (raw != null) {
+            return raw;
+        }
         ByteArrayOutputStream out = new ByteArrayOutputStream();
         switch (kind) {
             case 16: put(out, number, 4); break;

@@ -2,6 +2,8 @@ import java.util.Random;
 
 /** Any calls with any arguments in any state (always the same ones): no call throws. */
 public final class WildCallsTest {
+    /** More calls than one wild() makes. */
+    private static final int MOST_AT_ONCE = 20;
     private static final int[] ODD = {
         Integer.MIN_VALUE, -2, -1, 0, 1, 2, 3, 7, 8, 15, 16, 20, 40, 2000, Integer.MAX_VALUE,
     };
@@ -13,8 +15,8 @@ public final class WildCallsTest {
     public static void main(String[] args) {
         Random random = new Random(1);
         for (int run = 0; run < 2000; run++) {
-            BoundsPlanner x = new BoundsPlanner();
-            for (int call = 0; call < 300; call++) {
+            Planner x = new Planner();
+            while (x.callsLeft() > MOST_AT_ONCE) {
                 wild(x, random);
             }
             Checks.due("a call behind all of it", x.choose() >= -2 && x.choose() < 8, true);
@@ -27,7 +29,7 @@ public final class WildCallsTest {
         return which == 0 ? random.nextInt() : which < 4 ? ODD[random.nextInt(ODD.length)] : random.nextInt(8);
     }
 
-    private static void wild(BoundsPlanner x, Random random) {
+    private static void wild(Planner x, Random random) {
         switch (random.nextInt(12)) {
             case 0: x.feed(any(random), any(random), any(random), any(random), any(random)); break;
             case 1: x.index(any(random), any(random), any(random), any(random)); break;
@@ -45,7 +47,7 @@ public final class WildCallsTest {
     }
 
     /** A document with up to two bytes changed, as the filter or the value. */
-    private static void changed(BoundsPlanner x, Random random) {
+    private static void changed(Planner x, Random random) {
         byte[] bytes = Val.of(DOCUMENTS[random.nextInt(DOCUMENTS.length)]).bytes();
         for (int i = random.nextInt(3); i > 0; i--) {
             bytes[random.nextInt(bytes.length)] = (byte) any(random);
