@@ -139,6 +139,8 @@ public final class FaultsTest {
         Checks.by("$elem: if v is CONDITIONS with no $and, $or, $nor as its first name");
         fault(1, "{a: {$elem: {$x: 1}}}", "{a: {$elem: {$gt: 1, b: 1}}}", "{a: {$elem: {$gt: 1, $and: [{}]}}}",
                 "{a: {$elem: {$gt: 1, $or: [{}]}}}", "{a: {$elem: {$gt: 1, $nor: [{}]}}}");
+        fault(4, "{a: {$elem: {$in: 1, $and: [{}]}}}", "{a: {$elem: {$size: -1, $or: [{}]}}}",
+                "{a: {$elem: {$not: {b: 1}, $nor: [{}]}}}");
         Checks.by("$elem: otherwise v is a filter");
         fault(0, "{a: {$elem: {$and: [{}]}}}", "{a: {$elem: {$or: [{b: 1}], b: 1}}}",
                 "{a: {$elem: {$nor: [{}], $and: [{}]}}}", "{a: {$elem: {b: 1, $and: [{}]}}}");

@@ -8,6 +8,12 @@ public final class Utf8Test {
         all(false, "F4 90 80 80", "F4 BF BF BF", "F5 80 80 80", "F6 80 80 80", "F7 BF BF BF",
                 "F8 88 80 80 80", "FB BF BF BF BF", "FC 84 80 80 80 80", "FD BF BF BF BF BF", "FE", "FF",
                 "FE 80 80 80 80 80 80");
+        Checks.by("Right UTF-8: no character begins with a byte above 247, whatever is behind it");
+        for (int head = 0xF8; head <= 0xFF; head++) {
+            for (String rest : new String[] {" 80 80 80", " 90 80 80", " 8F BF BF", " BF BF BF", " 80 80", " 80"}) {
+                all(false, Integer.toHexString(head) + rest);
+            }
+        }
         Checks.by("Right UTF-8: characters but 55296 to 57343");
         all(true, "ED 9F BF", "EE 80 80", "ED 80 80", "EF BF BF", "EC BF BF");
         all(false, "ED A0 80", "ED A0 81", "ED AF BF", "ED B0 80", "ED BF BE", "ED BF BF",
