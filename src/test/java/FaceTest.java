@@ -12,7 +12,7 @@ import java.util.List;
 import java.util.Set;
 import java.util.TreeSet;
 
-/** The public face, the rules of the language that a look at the file can tell, the README. */
+/** The public face, the rules of the language that a look at the file can tell. */
 public final class FaceTest {
     private static final List<String> FACE = List.of(
             "int feed(int, int, int, int, int)", "int index(int, int, int, int)",
@@ -24,7 +24,6 @@ public final class FaceTest {
         members();
         classesInside();
         source();
-        readme();
         Checks.finish("FaceTest");
     }
 
@@ -95,19 +94,5 @@ public final class FaceTest {
                 Checks.due(line, known, true);
             }
         }
-    }
-
-    private static void readme() {
-        BoundsPlanner planner = new BoundsPlanner();
-        planner.feed(0x61000000, 0, 0, 0, 0);
-        Checks.due("index", planner.index(0, 1, 0, 0), 0);
-        planner.feed(0x16000000, 0x0361000E, 0x00000010, 0x24677400, 0x03000000);
-        planner.feed(0x00000000, 0, 0, 0, 0);
-        Checks.due("filter", planner.filter(22), 0);
-        Checks.due("many", planner.many(0, 0), 1);
-        Checks.due("low end", planner.end(0, 0, 0, false, 2), 0);
-        Checks.due("high end", planner.end(0, 0, 0, true, 1), 0);
-        Checks.due("rank", planner.rank(0), 1);
-        Checks.due("choose", planner.choose(), 0);
     }
 }
